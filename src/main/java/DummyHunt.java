@@ -67,8 +67,10 @@ public final class DummyHunt {
         past.forget();
         riddle.clear();
         book.count = 0;
-        for (int i = 0; i < IMAGES; i++) {
-            images[i].kept = false;
+        for (Image image : images) {
+            if (image != null) {
+                image.kept = false;
+            }
         }
         return plan.children;
     }
@@ -378,27 +380,34 @@ public final class DummyHunt {
     }
 
     public int keep(int i) {
-        if (i < 0 || i >= IMAGES) {
+        Image image = imageAt(i);
+        if (image == null) {
             return UNKNOWN;
         }
-        images[i].takeFrom(ward, draws);
+        image.takeFrom(ward, draws);
         past.forget();
         return 1;
     }
 
     public int goBack(int i) {
-        if (i < 0 || i >= IMAGES) {
+        Image image = imageAt(i);
+        if (image == null) {
             return UNKNOWN;
         }
-        if (!images[i].kept) {
+        if (!image.kept) {
             return NOT;
         }
-        images[i].putInto(ward, draws);
+        image.putInto(ward, draws);
         past.forget();
         return 1;
     }
 
     // ---- helpers of the calls
+
+    /** null if there is no such image. */
+    private Image imageAt(int i) {
+        return i >= 0 && i < images.length ? images[i] : null;
+    }
 
     /** 0 if n hours can pass now. */
     private int refusalOfHours(int n) {

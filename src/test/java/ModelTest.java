@@ -653,7 +653,10 @@ public final class ModelTest {
             case 16: due(run, i, x.trades(n - 1), m.trades(n - 1)); break;
             case 17: due(run, i, x.wants(c), m.wants(c)); break;
             case 18: due(run, i, x.wanted(d), m.wanted(d)); break;
-            case 19: due(run, i, x.lost(n * 3, n * 15, n * 11), m.lost(n * 3, n * 15, n * 11)); break;
+            case 19:
+                int things = r.nextInt(23), percent = r.nextInt(104) - 1, looks = r.nextInt(64) - 1;
+                due(run, i, x.lost(things, percent, looks), m.lost(things, percent, looks));
+                break;
             case 20: due(run, i, x.off(c), m.off(c)); break;
             case 21: due(run, i, x.quiet(n), m.quiet(n)); break;
             case 22: case 23: due(run, i, x.trial(c, d, took), m.trial(c, d, took)); break;

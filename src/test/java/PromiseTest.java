@@ -489,6 +489,7 @@ public final class PromiseTest {
         due(20, "lost(1, 1, -1)", x.lost(1, 1, -1), OUTSIDE);
         due(20, "lost(1, 1, 61)", x.lost(1, 1, 61), OUTSIDE);
         due(20, "lost(1, 100, 0)", x.lost(1, 100, 0), 0);
+        due(20, "lost(1, 0, 9)", x.lost(1, 0, 9), 0);
         due(20, "lost(1, 100, 60)", x.lost(1, 100, 60), 1000000000);
         due(20, "lost(7, 100, 7)", x.lost(7, 100, 7), 142857142L * 7);
         due(20, "lost(20, 100, 60)", x.lost(20, 100, 60), 1000000000);
