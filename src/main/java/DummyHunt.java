@@ -573,13 +573,14 @@ public final class DummyHunt {
             return true;
         }
 
-        /** Whether the text has no fault; an empty one leaves the plan without a nursery. */
+        /** Whether the text has no fault; one without a word, empty or of blanks, leaves the plan without a nursery. */
         private boolean readInto(Plan to) {
             to.reset();
             at = 0;
             faultKind = 0;
             faultAt = NONE;
-            if (length == 0) {
+            skipBlanks();
+            if (at >= length) {
                 return true;
             }
             readHead(to);
@@ -592,7 +593,6 @@ public final class DummyHunt {
         }
 
         private void readHead(Plan to) {
-            skipBlanks();
             if (letterHere() != 'n') {
                 fail(MISPLACED, at);
                 return;

@@ -41,6 +41,7 @@ public final class PromiseTest {
         newObject();
         feeding();
         soundTexts();
+        blankTexts();
         faults();
         nurseryResets();
         toldChildDummy();
@@ -118,8 +119,40 @@ public final class PromiseTest {
         read(full.toString(), 0, NONE);
     }
 
+    /** A text without a word has no fault and tells no nursery, as an empty one. */
+    private static void blankTexts() {
+        read(" ", 0, NONE);
+        read("   ", 0, NONE);
+        read(" ".repeat(240), 0, NONE);
+        DummyHunt x = made(FOUR);
+        x.seed(77);
+        x.hour(2);
+        x.keep(1);
+        x.hour(2);
+        x.trial(0, 0, true);
+        x.write(0, 0);
+        feedAll(x, "x");
+        x.nursery();
+        feedAll(x, "  ");
+        due(3, "nursery() of blanks", x.nursery(), 0);
+        due(4, "fault() of blanks behind a fault", x.fault(), NONE);
+        for (int what = 0; what <= 12; what++) {
+            due(3, "told(" + what + ") behind blanks", x.told(what), 0);
+        }
+        due(3, "hour(1) behind blanks", x.hour(1), NOT);
+        due(3, "drift(1) behind blanks", x.drift(1), NOT);
+        due(3, "child(0, 0) behind blanks", x.child(0, 0), UNKNOWN);
+        due(3, "goBack(1) behind blanks", x.goBack(1), NOT);
+        due(3, "the seed stays behind blanks", x.seed(0), 77);
+        feedAll(x, " n1 0;c0 0; ");
+        due(3, "nursery() behind blanks", x.nursery(), 1);
+    }
+
     private static void faults() {
-        read(" ", -11, 1);
+        read(" x", -11, 1);
+        read(" ;", -11, 1);
+        read(" 5 ", -11, 1);
+        read("\t", -11, 0);
         read("n", -11, 1);
         read("n1", -11, 2);
         read("n1 ", -11, 3);
