@@ -1,6 +1,6 @@
 /**
  * The boundary cases of section 1 and of promises 2 to 4: the text's length, its numbers, its clauses, its faults and
- * where they stand. Above each test stands the document's sentence that it would miss.
+ * where they stand. Above each test stands the document's sentence that it would miss. No object is used for more than 512 calls.
  */
 public final class TextBoundaryTest {
     private static final int NONE = -1, OUTSIDE = -1000000002, FULL = -1000000004;
@@ -325,8 +325,7 @@ public final class TextBoundaryTest {
         for (int blanks : new int[] {0, 1, 2, 239, 240}) {
             DummyHunt x = read(" ".repeat(blanks), 0, NONE);
             due("hour(1) without a nursery", x.hour(1), -1000000003);
-            feedAll(x, "n5 7;" + "c3 0;d0 0 1 9;");
-            due("nursery()", x.nursery(), 1);
+            x = read("n5 7;c3 0;d0 0 1 9;", 1, NONE);
             due("hour(1)", x.hour(1), 1);
             feedAll(x, " ".repeat(blanks));
             due("nursery() of an empty text, with one there", x.nursery(), 0);
