@@ -18,6 +18,9 @@ public final class FaceTest {
         "wants(int)", "wanted(int)", "lost(int,int,int)", "spares(int)", "off(int)", "quiet(int)", "trial(int,int,boolean)",
         "whose(int)", "next()", "write(int,int)", "tear()", "judge()", "seed(int)", "keep(int)", "goBack(int)"};
     private static final String[] CONSTANTS = {"NONE", "UNKNOWN", "OUTSIDE", "NOT", "FULL"};
+    private static final int[] VALUES = {-1, -1000000001, -1000000002, -1000000003, -1000000004};
+    private static final int LINES_MOST = 60;
+    private static final int FIELDS_MOST = 20;
     private static final String[] FORBIDDEN = {
         "throw", "throws", "try", "catch", "finally", "synchronized", "assert", "import", "package", "equals", "hashCode", "toString",
         "->", "::", "\\w+Exact"};
@@ -33,7 +36,12 @@ public final class FaceTest {
 
     public static void main(String[] args) throws Exception {
         face();
+        constants();
         names();
+        fields(DummyHunt.class);
+        for (Class<?> c : DummyHunt.class.getDeclaredClasses()) {
+            fields(c);
+        }
         source();
         System.out.println(wrong == 0 ? "the face is as due" : wrong + " things are not as due");
         if (wrong != 0) {
@@ -71,6 +79,24 @@ public final class FaceTest {
         check(made.length == 1 && made[0].getParameterCount() == 0 && Modifier.isPublic(made[0].getModifiers()), "one constructor");
     }
 
+    private static void constants() throws Exception {
+        for (int i = 0; i < CONSTANTS.length; i++) {
+            Field f = DummyHunt.class.getField(CONSTANTS[i]);
+            check(f.getType() == int.class && Modifier.isStatic(f.getModifiers()) && f.getInt(null) == VALUES[i], f + " is " + VALUES[i]);
+        }
+    }
+
+    /** No state outside the objects, and not too much in one. */
+    private static void fields(Class<?> c) {
+        int own = 0;
+        for (Field f : c.getDeclaredFields()) {
+            boolean isStatic = Modifier.isStatic(f.getModifiers());
+            own += isStatic ? 0 : 1;
+            check(!isStatic || (Modifier.isFinal(f.getModifiers()) && f.getType().isPrimitive()), f + " is a constant");
+        }
+        check(own <= FIELDS_MOST, c + " has " + own + " fields");
+    }
+
     private static void names() {
         Set<String> taken = new TreeSet<>();
         for (String m : METHODS) {
@@ -101,5 +127,25 @@ public final class FaceTest {
             Matcher m = Pattern.compile(pattern).matcher(code);
             check(!m.find(), "the source has " + word);
         }
+        lengths(text.split("\n"));
+    }
+
+    /** A method opens with four or eight blanks and a brace at its line's end, and closes with a brace as far in. */
+    private static void lengths(String[] lines) {
+        Pattern opening = Pattern.compile("( {4}| {8})(public|private) (?!static final class|final class).*\\) \\{");
+        int methods = 0;
+        for (int i = 0; i < lines.length; i++) {
+            Matcher m = opening.matcher(lines[i]);
+            if (!m.matches()) {
+                continue;
+            }
+            methods++;
+            int end = i;
+            while (end < lines.length && !lines[end].equals(m.group(1) + "}")) {
+                end++;
+            }
+            check(end - i < LINES_MOST, "too long: " + lines[i].trim());
+        }
+        check(methods > METHODS.length, "only " + methods + " methods are seen");
     }
 }
